@@ -26,7 +26,7 @@ public final class DoorMornings {
     private static final int MOST_MORE = 20;
 
     private static final int LOST_BY_WILD = 2;
-    private static final int NO_FAULT = -10;
+    private static final int FAULT_AT_START = -10;
     private static final int NOT_SO_MANY = -5;
     private static final int WAYS_MODULUS = 1000003;
     private static final long NOT_KEPT = -1;
@@ -415,7 +415,7 @@ public final class DoorMornings {
             for (int i = 0; i <= MOST_LETTERS; i++) {
                 skipBlanks();
                 if (place >= size) break;
-                if (!readItem(to)) return NO_FAULT - fault;
+                if (!readItem(to)) return FAULT_AT_START - fault;
                 items++;
             }
             return items;
