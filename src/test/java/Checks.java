@@ -1,3 +1,5 @@
+import java.util.List;
+
 /** What the tests of the project share: answers compared, and texts told. */
 final class Checks {
     private int wrong = 0;
@@ -16,6 +18,19 @@ final class Checks {
         if (!is) {
             wrong++;
             System.out.println("does not hold: " + what);
+        }
+    }
+
+    /** The same calls on two objects: the same answers. */
+    void same(String what, List<Call> calls, DoorMornings one, DoorMornings other) {
+        seen++;
+        for (Call call : calls) {
+            long got = call.on(one);
+            long want = call.on(other);
+            if (got == want) continue;
+            wrong++;
+            System.out.println(what + ", " + call + " answered " + got + ", due is " + want);
+            return;
         }
     }
 
