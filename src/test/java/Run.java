@@ -88,21 +88,18 @@ final class Run {
     }
 
     Run changesNothing(Call call, long want) {
-        DoorMornings asked = replayed();
-        checks.due(title + ": " + call, call.on(asked), want);
-        for (List<Call> probe : Probes.ALL) {
-            if (made.size() + 1 + probe.size() > MOST_CALLS) throw new IllegalStateException("no calls are left for a probe: " + title);
-            DoorMornings without = replayed();
-            DoorMornings with = replayed();
-            call.on(with);
-            checks.same(title + ": behind " + call, probe, with, without);
-        }
+        Run with = again(title + ": behind " + call);
+        checks.due(title + ": " + call, with.make(call), want);
+        with.answersAs(this);
         return this;
     }
 
-    private DoorMornings replayed() {
-        DoorMornings other = new DoorMornings();
-        for (Call call : made) call.on(other);
-        return other;
+    /** Behind this run every call answers as behind the other. */
+    Run answersAs(Run other) {
+        for (List<Call> probe : Probes.ALL) {
+            if (Math.max(made.size(), other.made.size()) + probe.size() > MOST_CALLS) throw new IllegalStateException("no calls are left for a probe: " + title);
+            checks.same(title, probe, again(title).x, other.again(title).x);
+        }
+        return this;
     }
 }
