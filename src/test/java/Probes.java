@@ -18,7 +18,7 @@ final class Probes {
         List<Call> all = new ArrayList<>();
         for (int what = 0; what < 8; what++) add(all, "count", what);
         addNow(all);
-        for (int w = 0; w < WOMEN; w++) add(all, "woman", w, 2);
+        for (int w = 0; w < WOMEN; w++) for (int what = 1; what < 3; what++) add(all, "woman", w, what);
         for (int g = 0; g < GOODBYES; g++) for (int what = 0; what < 2; what++) add(all, "goodbye", g, what);
         add(all, "fits");
         add(all, "trace");
