@@ -394,7 +394,7 @@ public final class DoorMornings {
         int settingsTold = 0;
 
         int add(int letter) {
-            if (size >= MOST_LETTERS) return FULL;
+            if (size < 0 || size >= MOST_LETTERS) return FULL;
             letters[size] = letter;
             size++;
             return size;

@@ -6,13 +6,12 @@ import java.lang.reflect.Modifier;
 import java.nio.file.Files;
 import java.nio.file.Path;
 import java.util.Arrays;
+import java.util.List;
 import java.util.Set;
 import java.util.TreeSet;
-import java.util.regex.Matcher;
-import java.util.regex.Pattern;
 import java.util.stream.Collectors;
 
-/** The face of the document, and the rules of LANGUAGE.md that can be seen from outside. */
+/** The face of the document: every constant, the constructor, every method, and no other member. */
 public final class FaceTest {
     private static final Checks CHECKS = new Checks();
     private static final String[] METHODS = {
@@ -27,7 +26,7 @@ public final class FaceTest {
         constants();
         members();
         methodNames();
-        source();
+        asTheDocumentWritesIt();
         CHECKS.end();
     }
 
@@ -79,19 +78,20 @@ public final class FaceTest {
         }
     }
 
-    private static void source() throws IOException {
-        String text = Files.readString(Path.of("src/main/java/DoorMornings.java"));
-        for (int i = 0; i < text.length(); i++) {
-            if (text.charAt(i) > 126) CHECKS.holds("the source is plain letters at " + i, false);
+    /** Each public line of the source is the document's, in its order: the names of the numbers show theirs. */
+    private static void asTheDocumentWritesIt() throws IOException {
+        List<String> document = publicLines(Path.of("../shared/DOC.md"));
+        List<String> source = publicLines(Path.of("src/main/java/DoorMornings.java"));
+        CHECKS.due("lines of the document's face", document.size(), 1 + 2 + 1 + METHODS.length);
+        CHECKS.due("public lines of the source", source.size(), document.size());
+        for (int i = 0; i < document.size() && i < source.size(); i++) {
+            CHECKS.holds(source.get(i) + " is " + document.get(i), source.get(i).equals(document.get(i)));
         }
-        String code = text.replaceAll("(?s)/\\*.*?\\*/", "").replaceAll("//[^\n]*", "");
-        String[] ruledOut = {
-            "\\bthrow\\b", "\\btry\\b", "\\bcatch\\b", "\\bsynchronized\\b", "\\bassert\\b", "\\bimport\\b", "\\bpackage\\b",
-            "->", "::", "Exact\\b", "\\bnull\\b", "\\bSystem\\b", "\\bThread\\b", "\\bRandom\\b", "static\\s*\\{", "\\bvar\\b"
-        };
-        for (String pattern : ruledOut) {
-            Matcher m = Pattern.compile(pattern).matcher(code);
-            CHECKS.holds("the source has no " + pattern, !m.find());
-        }
+    }
+
+    /** Without what ends a line: the document puts ; where the source puts a body. */
+    private static List<String> publicLines(Path file) throws IOException {
+        return Files.readAllLines(file).stream().filter(line -> line.strip().startsWith("public "))
+            .map(line -> line.strip().replaceAll("\\s*[;{]$", "")).collect(Collectors.toList());
     }
 }
